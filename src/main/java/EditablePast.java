@@ -23,7 +23,7 @@ public final class EditablePast {
 
     private static final int ABSENT = -1;
     /** Stands behind every moment, so that a line that has ended never has the earlier one. */
-    private static final int NEVER = Integer.MAX_VALUE;
+    private static final int NEVER = LAST_MOMENT + 1;
 
     private final Collection[] collections;
 
@@ -468,17 +468,14 @@ public final class EditablePast {
 
         abstract int placeFor(int value);
 
-        @Override
         boolean allows(int name, int a, int b) {
             return b == 0 && (name == GIVE && isValue(a) || name == TAKE && a == 0);
         }
 
-        @Override
         void clear() {
             count = 0;
         }
 
-        @Override
         void perform(int name, int a, int b) {
             if (name == GIVE) {
                 insert(placeFor(a), a);
@@ -509,21 +506,18 @@ public final class EditablePast {
     }
 
     private static final class Queue extends Bag {
-        @Override
         int placeFor(int value) {
             return count;
         }
     }
 
     private static final class Stack extends Bag {
-        @Override
         int placeFor(int value) {
             return 0;
         }
     }
 
     private static final class Heap extends Bag {
-        @Override
         int placeFor(int value) {
             int place = 0;
             while (place < count && values[place] < value) {
@@ -546,17 +540,14 @@ public final class EditablePast {
             return ABSENT;
         }
 
-        @Override
         boolean allows(int name, int a, int b) {
             return isValue(a) && (name == GIVE && isValue(b) || name == TAKE && b == 0);
         }
 
-        @Override
         void clear() {
             count = 0;
         }
 
-        @Override
         void perform(int name, int a, int b) {
             int place = placeOf(a);
             if (name == GIVE && place == ABSENT) {
@@ -587,17 +578,14 @@ public final class EditablePast {
     private static final class Register extends Contents {
         long total;
 
-        @Override
         boolean allows(int name, int a, int b) {
             return name == GIVE && a >= -LARGEST && a <= LARGEST && b == 0;
         }
 
-        @Override
         void clear() {
             total = 0;
         }
 
-        @Override
         void perform(int name, int a, int b) {
             total = Math.max(0L, total + a);
             noteEffect(total);
@@ -608,12 +596,10 @@ public final class EditablePast {
         /** The elements of one set have the same leader, one of them. */
         final int[] leaders = new int[ELEMENTS];
 
-        @Override
         boolean allows(int name, int a, int b) {
             return name == GIVE && isElement(a) && isElement(b);
         }
 
-        @Override
         void clear() {
             count = ELEMENTS;
             for (int i = 0; i < ELEMENTS; i++) {
@@ -621,7 +607,6 @@ public final class EditablePast {
             }
         }
 
-        @Override
         void perform(int name, int a, int b) {
             int leader = leaders[a];
             int replaced = leaders[b];

@@ -91,7 +91,8 @@ public final class FaceTest {
         for (Class<?> inner : EditablePast.class.getDeclaredClasses()) {
             int modifiers = inner.getModifiers();
             check.due(inner.getName() + " is static", true, Modifier.isStatic(modifiers));
-            check.due(inner.getName() + " is hidden", false, Modifier.isPublic(modifiers) || Modifier.isProtected(modifiers));
+            check.due(inner.getName() + " is hidden", false,
+                    Modifier.isPublic(modifiers) || Modifier.isProtected(modifiers));
         }
     }
 

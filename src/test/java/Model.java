@@ -189,7 +189,8 @@ final class Model {
         }
         for (Map.Entry<Integer, int[]> entry : line.headMap(time, true).entrySet()) {
             int[] o = entry.getValue();
-            run.outcomes.put(entry.getKey(), kind < 4 && o[1] == 2 ? take(run, kind, o[2]) : give(run, kind, o[2], o[3]));
+            Outcome outcome = o[1] == 2 ? take(run, kind, o[2]) : give(run, kind, o[2], o[3]);
+            run.outcomes.put(entry.getKey(), outcome);
         }
         return run;
     }

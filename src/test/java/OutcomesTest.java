@@ -256,6 +256,9 @@ public final class OutcomesTest {
         check.due("still", 90, x.firstChange(0, 1, MAX));
         x.strike(0, 90);
         check.due("the strike is one", 90, x.firstChange(0, 1, MAX));
+        x.put(0, 90, 1, 9, 0);
+        check.due("the same one put again is one", 90, x.firstChange(0, 1, MAX));
+        x.strike(0, 90);
         x.close(0);
         x.open(0, 0);
         check.due("opened anew", 0, x.firstChange(0, 1, MAX));
