@@ -2,6 +2,12 @@
 final class Check {
     private int asked;
     private int wrong;
+    private String sentence = "";
+
+    /** Names the sentence of the document that the next answers are due by. */
+    void sentence(String words) {
+        sentence = "\"" + words + "\": ";
+    }
 
     void due(String call, long want, long got) {
         asked++;
@@ -40,7 +46,7 @@ final class Check {
 
     private void tell(String call, String got, String want) {
         wrong++;
-        System.out.println(call + ": answered " + got + ", due is " + want);
+        System.out.println(sentence + call + ": answered " + got + ", due is " + want);
     }
 
     void end() {

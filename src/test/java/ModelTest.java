@@ -5,11 +5,7 @@ public final class ModelTest {
     private static final int RUNS = 1500;
     private static final int CALLS = 512;
     private static final int MAX = 1000000000;
-    private static final String[] METHODS = {
-        "open", "close", "put", "strike", "shift", "front", "size", "at", "least", "sum", "together",
-        "result", "works", "effective", "firstChange", "operations", "operation"
-    };
-    /** Closing is rare, so that lines grow full. */
+    /** How often each call of Calls.NAMES comes; closing is rare, so that lines grow full. */
     private static final int[] WEIGHTS = {3, 1, 40, 6, 8, 10, 6, 8, 8, 6, 8, 8, 6, 6, 14, 2, 6};
     private static final int[] ODD_NUMBERS = {0, 1, -1, 2, 3, 4, 15, 16, 32, MAX, MAX + 1, -MAX, -MAX - 1,
         Integer.MIN_VALUE, Integer.MAX_VALUE};
@@ -38,10 +34,10 @@ public final class ModelTest {
         Arrays.fill(kinds, -1);
         Arrays.fill(used, 1);
         for (int i = 0; i < CALLS; i++) {
-            String method = i < 4 ? "open" : METHODS[weighted()];
+            String method = i < 4 ? "open" : Calls.NAMES[weighted()];
             int[] p = parameters(method);
-            String want = answer(() -> model.call(method, p));
-            String got = answer(() -> call(x, method, p));
+            String want = Calls.answer(() -> model.call(method, p));
+            String got = Calls.answer(x, method, p);
             check.due("run " + run + ", call " + i + ", " + method + Arrays.toString(p), want, got);
             if (!got.startsWith("java")) {
                 follow(method, p);
@@ -58,41 +54,6 @@ public final class ModelTest {
             used[below(used.length)] = p[1];
         } else if (method.equals("shift")) {
             used[below(used.length)] = p[2];
-        }
-    }
-
-    private interface Call {
-        long answer();
-    }
-
-    private static String answer(Call call) {
-        try {
-            return String.valueOf(call.answer());
-        } catch (RuntimeException e) {
-            return e.getClass().getName();
-        }
-    }
-
-    private static long call(EditablePast x, String method, int[] p) {
-        switch (method) {
-            case "open": x.open(p[0], p[1]); return 0;
-            case "close": return x.close(p[0]);
-            case "put": x.put(p[0], p[1], p[2], p[3], p[4]); return 0;
-            case "strike": return x.strike(p[0], p[1]) ? 1 : 0;
-            case "shift": x.shift(p[0], p[1], p[2]); return 0;
-            case "front": return x.front(p[0], p[1]);
-            case "size": return x.size(p[0], p[1]);
-            case "at": return x.at(p[0], p[1], p[2]);
-            case "least": return x.least(p[0], p[1], p[2]);
-            case "sum": return x.sum(p[0], p[1]);
-            case "together": return x.together(p[0], p[1], p[2], p[3]) ? 1 : 0;
-            case "result": return x.result(p[0], p[1]);
-            case "works": return x.works(p[0], p[1]) ? 1 : 0;
-            case "effective": return x.effective(p[0], p[1], p[2]);
-            case "firstChange": return x.firstChange(p[0], p[1], p[2]);
-            case "operations": return x.operations(p[0]);
-            case "operation": return x.operation(p[0], p[1], p[2]);
-            default: throw new AssertionError(method);
         }
     }
 
